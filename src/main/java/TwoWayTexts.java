@@ -393,16 +393,23 @@ public final class TwoWayTexts {
         }
 
         private void addJoined(int front, TextSet result) {
-            for (int i = 0; i < backCount; i++) {
-                int text = Texts.joined(front, backs[i]);
-                if (text < 0) {
-                    // The later backs are no shorter.
-                    return;
+            int frontLength = Texts.lengthOf(front);
+            int letters = front - STARTS[frontLength];
+            int i = 0;
+            for (int length = 0; length <= LONGEST - frontLength; length++) {
+                // All backs of a length are as far from what they become behind this front.
+                int distance = STARTS[frontLength + length] + letters * POWERS[length] - STARTS[length];
+                for (; i < backCount && backs[i] < STARTS[length + 1]; i++) {
+                    addAndLook(backs[i] + distance, result);
                 }
-                if (result.has(text) && (twice == NONE || text < twice)) {
-                    twice = text;
-                }
+            }
+        }
+
+        private void addAndLook(int text, TextSet result) {
+            if (!result.has(text)) {
                 result.add(text);
+            } else if (twice == NONE || text < twice) {
+                twice = text;
             }
         }
     }
@@ -848,6 +855,7 @@ public final class TwoWayTexts {
                 case '=':
                     at++;
                     Part named = atom(open);
+                    // Its place is never told: it is good when what it names is.
                     return compound(NAME, named, named, at);
                 case '-':
                     at++;
