@@ -11,12 +11,14 @@ import java.util.TreeSet;
 
 /**
  * Random runs of calls (always the same ones) on the class and on a slow model that is written from the document
- * with strings and sets: every answer must be the same. Arguments, if any: how many runs, and another seed.
+ * with strings and sets, and every short line on both: every answer must be the same. Arguments, if any: how many
+ * runs, another seed, and how long the short lines may be.
  */
 public final class ModelTest {
     private static final int RUNS = 400;
     private static final int CALLS = 512;
     private static final int SEED = 20261115;
+    private static final int LONGEST_OF_ALL_LINES = 3;
     private static final String[] LINES = {
         "(=.-.)%", "(=.-.)*", "(=(.-.)b.)%", "(-a+b)*", "(^=.b.)%", "(a|-b+a)*", "(=a.|b-.)%", "(-.)", "a|-b+a",
         "^(a|ab)(c|-b+c)", "(a*b|c)%", "((=.%c)b)%", "(=.-.*b)%", "(=.(-.b)*c)%", "(+aa+b)*", "-a-a-a-a-a-a-a", "aaaaaaa",
@@ -738,8 +740,29 @@ public final class ModelTest {
         }
     }
 
+    /** Every line of up to so many characters, with one that no line may have. */
+    private static void everyShortLine(int longest) {
+        List<String> lines = new ArrayList<>(List.of(""));
+        for (int i = 0; i < lines.size(); i++) {
+            String line = lines.get(i);
+            Run run = new Run();
+            run.compileLine(line);
+            run.call("many", 0);
+            run.call("many", 1);
+            for (int text = 0; text < 13; text++) {
+                run.call("get", text);
+                run.call("create", text);
+                run.call("key", text);
+            }
+            for (char sign : line.length() < longest ? "abc.-+^=()|*%d".toCharArray() : new char[0]) {
+                lines.add(line + sign);
+            }
+        }
+    }
+
     public static void main(String[] args) {
         makeTexts();
+        everyShortLine(args.length > 2 ? Integer.parseInt(args[2]) : LONGEST_OF_ALL_LINES);
         int runs = args.length > 0 ? Integer.parseInt(args[0]) : RUNS;
         RANDOM.setSeed(args.length > 1 ? Integer.parseInt(args[1]) : SEED);
         for (int i = 0; i < runs; i++) {

@@ -1,91 +1,8 @@
 /** What the document promises, promise by promise, with answers worked out by hand from its words. */
-public final class PromiseTest {
-    private static final int NONE = TwoWayTexts.NONE;
-    private static final int LONG = TwoWayTexts.LONG;
-    private static final String STATE = "IllegalStateException";
-    private static final String ARGUMENT = "IllegalArgumentException";
-    private static final String INDEX = "IndexOutOfBoundsException";
-
-    private static int wrong = 0;
-    private static int promise = 0;
-
-    private interface Call {
-        void make();
-    }
-
-    private static void due(String what, Object got, Object want) {
-        if (!got.equals(want)) {
-            wrong++;
-            System.out.println("promise " + promise + ": " + what + " is " + got + ", due is " + want);
-        }
-    }
-
-    private static void dueThrown(String what, Call call, String want) {
-        String got = "nothing";
-        try {
-            call.make();
-        } catch (RuntimeException e) {
-            got = e.getClass().getSimpleName();
-        }
-        due("what is thrown by " + what, got, want);
-    }
-
-    /** The number of a text, counted in the plainest way. */
-    private static int n(String text) {
-        int number = 0;
-        for (int i = 0; i < text.length(); i++) {
-            number = 3 * number + text.charAt(i) - 'a' + 1;
-        }
-        return number;
-    }
-
-    private static int four(String characters) {
-        int result = 0;
-        for (int i = 0; i < characters.length(); i++) {
-            result |= characters.charAt(i) << 8 * i;
-        }
-        return result;
-    }
-
-    private static void typeLine(TwoWayTexts x, String line) {
-        for (int i = 0; i < line.length(); i += 4) {
-            due("typing " + line, x.type(four(line.substring(i, Math.min(i + 4, line.length())))), true);
-        }
-    }
-
-    private static int compileLine(TwoWayTexts x, String line) {
-        typeLine(x, line);
-        return x.compile();
-    }
-
-    private static TwoWayTexts with(String line) {
-        TwoWayTexts x = new TwoWayTexts();
-        due("compile of " + line, compileLine(x, line), 0);
-        return x;
-    }
-
-    private static void dueFailure(String line, int place, int why, int witness) {
-        TwoWayTexts x = new TwoWayTexts();
-        due("compile of " + line, compileLine(x, line), place);
-        due("why of " + line, x.why(), why);
-        due("witness of " + line, x.witness(), witness);
-        dueThrown("many(0) behind " + line, () -> x.many(0), STATE);
-    }
-
-    private static void dueFrom(TwoWayTexts x, int... places) {
-        for (int k = 0; k < 7; k++) {
-            due("from(" + k + ")", x.from(k), k < places.length ? places[k] : NONE);
-        }
-    }
-
-    /** No program and a wrong text: the program is what is missed first. */
-    private static void dueTextExceptions(String name, TwoWayTexts ready, java.util.function.ObjIntConsumer<TwoWayTexts> call) {
-        TwoWayTexts empty = new TwoWayTexts();
-        for (int text : new int[] {0, 1092, -1, 1093, Integer.MIN_VALUE, Integer.MAX_VALUE}) {
-            dueThrown(name + "(" + text + ") without a program", () -> call.accept(empty, text), STATE);
-            dueThrown(name + "(" + text + ")", () -> call.accept(ready, text),
-                text < 0 || text > 1092 ? INDEX : "nothing");
-        }
+public final class PromiseTest extends Due {
+    private static void dueTextExceptions(String name, TwoWayTexts ready, TextCall call) {
+        dueThrownWithoutProgram(name, call);
+        dueThrownForNoText(name, ready, call);
     }
 
     private static void newObject() {
@@ -310,12 +227,6 @@ public final class PromiseTest {
         dueTextExceptions("keep", x, (z, text) -> z.keep(text));
     }
 
-    private static int putInto(String line, String source, String view) {
-        TwoWayTexts x = with(line);
-        due(line + " keeps " + source, x.keep(n(source)), true);
-        return x.put(n(view));
-    }
-
     private static void put() {
         due("a dot", putInto(".", "a", "c"), n("c"));
         due("- and a dot", putInto("-..", "ba", "c"), n("bc"));
@@ -500,43 +411,28 @@ public final class PromiseTest {
         dueThrown("differs without a program", () -> new TwoWayTexts().differs(), STATE);
     }
 
+    private static void promise(int number, String name, Call test) {
+        sentence("Promise " + number, name, test);
+    }
+
     public static void main(String[] args) {
-        promise = 1;
-        newObject();
-        promise = 2;
-        type();
-        promise = 3;
-        compileOfNoProgram();
-        compileOfParts();
-        promise = 4;
-        why();
-        promise = 5;
-        witness();
-        promise = 6;
-        many();
-        promise = 7;
-        isSource();
-        promise = 8;
-        isView();
-        promise = 9;
-        get();
-        promise = 10;
-        keep();
-        promise = 11;
-        put();
-        promise = 12;
-        create();
-        promise = 13;
-        from();
-        promise = 14;
-        key();
-        promise = 15;
-        note();
-        promise = 16;
-        differs();
-        System.out.println(wrong == 0 ? "all promises hold" : wrong + " answers are not as due");
-        if (wrong != 0) {
-            System.exit(1);
-        }
+        promise(1, "A new object", PromiseTest::newObject);
+        promise(2, "type", PromiseTest::type);
+        promise(3, "compile", PromiseTest::compileOfNoProgram);
+        promise(3, "compile", PromiseTest::compileOfParts);
+        promise(4, "why", PromiseTest::why);
+        promise(5, "witness", PromiseTest::witness);
+        promise(6, "many", PromiseTest::many);
+        promise(7, "isSource", PromiseTest::isSource);
+        promise(8, "isView", PromiseTest::isView);
+        promise(9, "get", PromiseTest::get);
+        promise(10, "keep", PromiseTest::keep);
+        promise(11, "put", PromiseTest::put);
+        promise(12, "create", PromiseTest::create);
+        promise(13, "from", PromiseTest::from);
+        promise(14, "key", PromiseTest::key);
+        promise(15, "note", PromiseTest::note);
+        promise(16, "differs", PromiseTest::differs);
+        end();
     }
 }
